@@ -79,6 +79,10 @@ public final class BalanceTest {
     }
 
     private static void stopsAtTheEndsOfWeights() {
+        // A second time would have 88: more than 76, though less than at first.
+        PowerPlot twice = of(10, 20, -990, 700, 30, 20, -999, 981);
+        balance(twice, 100, 20, 1, 76);
+        weights(twice, -999, -899);
         PowerPlot least = of(10, 20, -990, 700, 30, 20, -999, 981);
         check.due("disorder ahead", least.disorder(), 322);
         balance(least, 100, 1, 1, 76);

@@ -132,6 +132,9 @@ public final class CellsTest {
         check.due("the heavier", plot.isHidden(1), false);
         plot.move(1, 7, 10);
         check.due("at unlike places", plot.isHidden(0), false);
+        PowerPlot three = of(7, 9, 5, 7, 9, 5, 7, 9, 6, 7, 9, 5);
+        check.due("the heaviest of four", three.isHidden(2), false);
+        check.due("the last of them", three.isHidden(3), true);
     }
 
     private static void hiddenOnALine() {
@@ -147,11 +150,25 @@ public final class CellsTest {
         check.due("no longer between", plot.isHidden(2), false);
         plot.move(1, 40, 1);
         check.due("no longer on the line", plot.isHidden(2), false);
+        // Near the other end the line is at 1200.
+        plot.move(1, 40, 0);
+        plot.move(2, 30, 0);
+        check.due("above the line", plot.isHidden(2), true);
+        plot.weight(2, -299);
+        check.due("below the line", plot.isHidden(2), false);
+        plot.weight(2, -300);
+        check.due("on the line", plot.isHidden(2), true);
         PowerPlot slanted = of(1, 2, 0, 13, 10, 0, 4, 4, -38);
         // Heights 5 and 269, a quarter of the way: 71; its own is 32 less its weight.
         check.due("below a slanted line", slanted.isHidden(2), false);
         slanted.weight(2, -39);
         check.due("on a slanted line", slanted.isHidden(2), true);
+        PowerPlot upright = of(7, 0, 0, 7, 10, -299, 7, 40, 0);
+        check.due("below an upright line", upright.isHidden(1), false);
+        upright.weight(1, -300);
+        check.due("on an upright line", upright.isHidden(1), true);
+        upright.move(0, 7, 11);
+        check.due("under an upright line", upright.isHidden(1), false);
     }
 
     private static void hiddenInATriangle() {
@@ -173,6 +190,17 @@ public final class CellsTest {
             plot.move(3, 21, 20);
             plot.weight(3, -999);
             check.due("outside the triangle", plot.isHidden(3), false);
+        }
+        // A small triangle: its plane is at 10 thirds over 1, 1, where the height is 2 less the weight.
+        PowerPlot small = of(0, 0, 0, 2, 1, 0, 1, 2, 0, 1, 1, -1);
+        check.due("a third below the plane", small.isHidden(3), false);
+        small.weight(3, -2);
+        check.due("two thirds above the plane", small.isHidden(3), true);
+        int[][] outside = {{2, 2}, {0, 1}, {1, 0}, {2, 0}, {0, 2}, {3, 2}};
+        for (int[] place : outside) {
+            small.weight(3, -999);
+            small.move(3, place[0], place[1]);
+            check.due("near the triangle", small.isHidden(3), false);
         }
         PowerPlot line = of(0, 0, 0, 20, 20, 0, 40, 40, 0, 20, 19, -999);
         check.due("three others on a line", line.isHidden(3), false);

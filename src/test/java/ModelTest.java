@@ -8,13 +8,22 @@ public final class ModelTest {
     private final Random random;
     private final PowerPlot plot = new PowerPlot();
     private final Model model = new Model();
-    private final int grid;
+    private final int least;
+    private final int step;
+    private final int columns;
     private final int spread;
+    private final boolean isOnALine;
 
     private ModelTest(int seed) {
         random = new Random(seed);
-        grid = new int[] {1, 2, 4, 8, 20, 40}[seed % 6];
-        spread = seed / 6 % 5;
+        // Far and near steps from the box's corner, and steps of 1 from anywhere in it.
+        int[] steps = {40, 20, 10, 5, 2, 1, 1, 1, 1};
+        int[] most = {1, 2, 4, 8, 20, 40, 2, 4, 6};
+        step = steps[seed % 9];
+        columns = most[seed % 9];
+        least = step * columns == 40 ? 0 : random.nextInt(41 - columns);
+        spread = seed / 9 % 5;
+        isOnALine = seed % 7 == 0;
     }
 
     public static void main(String[] args) {
@@ -25,7 +34,7 @@ public final class ModelTest {
     }
 
     private void run() {
-        for (int step = 0; step < 9; step++) {
+        for (int round = 0; round < 9; round++) {
             for (int call = 0; call < 4; call++) {
                 change();
             }
@@ -37,7 +46,7 @@ public final class ModelTest {
     }
 
     private int coordinate() {
-        return random.nextInt(grid + 1) * (40 / grid);
+        return least + random.nextInt(columns + 1) * step;
     }
 
     private int someWeight() {
@@ -58,14 +67,14 @@ public final class ModelTest {
     private void change() {
         int kind = random.nextInt(8);
         if (model.count == 0 || kind < 3 && model.count < 12) {
-            int x = coordinate(), y = coordinate(), weight = someWeight();
+            int x = coordinate(), y = isOnALine ? x : coordinate(), weight = someWeight();
             check.due("site", plot.site(x, y, weight), model.add(x, y, weight));
             return;
         }
         int site = random.nextInt(model.count);
         if (kind < 5) {
             model.x[site] = coordinate();
-            model.y[site] = coordinate();
+            model.y[site] = isOnALine ? model.x[site] : coordinate();
             plot.move(site, model.x[site], model.y[site]);
         } else if (kind == 5) {
             int weight = someWeight();

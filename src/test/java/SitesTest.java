@@ -166,7 +166,8 @@ public final class SitesTest {
         PowerPlot plot = twoSites();
         plot.site(0, 7, 0);
         plot.site(40, 40, -999);
-        String[] texts = {"3,40-7", "12,0+999", "0,7+0", "40,40-999"};
+        plot.site(10, 9, -1);
+        String[] texts = {"3,40-7", "12,0+999", "0,7+0", "40,40-999", "10,9-1"};
         for (int site = 0; site < texts.length; site++) {
             for (int place = 0; place < 12; place++) {
                 char due = place < texts[site].length() ? texts[site].charAt(place) : ' ';
@@ -176,7 +177,7 @@ public final class SitesTest {
         }
         check.fails("sign at -1", plot, NO_SITE, () -> plot.sign(0, -1));
         check.fails("sign at the least", plot, NO_SITE, () -> plot.sign(0, LEAST));
-        for (int none : new int[] {-1, 4, 12, LEAST, MOST}) {
+        for (int none : new int[] {-1, 5, 12, LEAST, MOST}) {
             check.fails("sign of site " + none, plot, NO_SITE, () -> plot.sign(none, 0));
         }
     }
