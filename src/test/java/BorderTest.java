@@ -19,7 +19,7 @@ public final class BorderTest {
         check.end();
     }
 
-    private static void border(PowerPlot plot, int site, int other, String due) {
+    private static void border(Plot plot, int site, int other, String due) {
         check.asks("a border", plot, () -> {
             check.due("border " + site + " " + other, Snapshot.border(plot, site, other), due);
             check.due("border " + other + " " + site, Snapshot.border(plot, other, site), due);
@@ -28,7 +28,7 @@ public final class BorderTest {
         check.due("hasBorder", plot.hasBorder(site, other), true);
     }
 
-    private static void cause(PowerPlot plot, int site, int other, int due) {
+    private static void cause(Plot plot, int site, int other, int due) {
         check.asks("why", plot, () -> check.due("why " + site + " " + other, plot.why(site, other), due));
         check.due("why " + other + " " + site, plot.why(other, site), due);
         check.due("hasBorder", plot.hasBorder(site, other), false);
@@ -42,39 +42,39 @@ public final class BorderTest {
     }
 
     private static void endsInTheBox() {
-        border(Plots.of(10, 20, 0, 30, 20, 0), 0, 1, "20/1,0/1 20/1,40/1");
-        border(Plots.of(10, 20, 0, 30, 20, 5), 0, 1, "159/8,0/1 159/8,40/1");
-        border(Plots.of(20, 10, 0, 20, 30, 0), 0, 1, "0/1,20/1 40/1,20/1");
-        border(Plots.of(20, 10, 5, 20, 30, 0), 0, 1, "0/1,161/8 40/1,161/8");
-        border(Plots.of(0, 0, 0, 40, 40, 0), 0, 1, "0/1,40/1 40/1,0/1");
-        border(Plots.of(0, 40, 0, 40, 0, 0), 0, 1, "0/1,0/1 40/1,40/1");
+        border(Plot.of(10, 20, 0, 30, 20, 0), 0, 1, "20/1,0/1 20/1,40/1");
+        border(Plot.of(10, 20, 0, 30, 20, 5), 0, 1, "159/8,0/1 159/8,40/1");
+        border(Plot.of(20, 10, 0, 20, 30, 0), 0, 1, "0/1,20/1 40/1,20/1");
+        border(Plot.of(20, 10, 5, 20, 30, 0), 0, 1, "0/1,161/8 40/1,161/8");
+        border(Plot.of(0, 0, 0, 40, 40, 0), 0, 1, "0/1,40/1 40/1,0/1");
+        border(Plot.of(0, 40, 0, 40, 0, 0), 0, 1, "0/1,0/1 40/1,40/1");
         // 3 x + y = 5.
-        border(Plots.of(0, 0, 0, 3, 1, 0), 0, 1, "0/1,5/1 5/3,0/1");
+        border(Plot.of(0, 0, 0, 3, 1, 0), 0, 1, "0/1,5/1 5/3,0/1");
         // 6 y = 14 x + 47.
-        border(Plots.of(1, 9, 0, 8, 6, 65), 0, 1, "0/1,47/6 193/14,40/1");
+        border(Plot.of(1, 9, 0, 8, 6, 65), 0, 1, "0/1,47/6 193/14,40/1");
     }
 
     private static void cutByTheBox() {
-        cause(Plots.of(0, 0, 0, 1, 0, -999), 0, 1, PowerPlot.BOX);
-        cause(Plots.of(0, 0, 0, 0, 1, -999), 0, 1, PowerPlot.BOX);
-        cause(Plots.of(40, 40, 0, 40, 39, -999), 0, 1, PowerPlot.BOX);
+        cause(Plot.of(0, 0, 0, 1, 0, -999), 0, 1, PowerPlot.BOX);
+        cause(Plot.of(0, 0, 0, 0, 1, -999), 0, 1, PowerPlot.BOX);
+        cause(Plot.of(40, 40, 0, 40, 39, -999), 0, 1, PowerPlot.BOX);
         // x + y = 0: a corner alone.
-        cause(Plots.of(0, 0, 0, 1, 1, 2), 0, 1, PowerPlot.BOX);
-        border(Plots.of(0, 0, 0, 1, 1, 1), 0, 1, "0/1,1/2 1/2,0/1");
-        cause(Plots.of(40, 40, 0, 39, 39, 2), 0, 1, PowerPlot.BOX);
-        border(Plots.of(40, 40, 0, 39, 39, 1), 0, 1, "79/2,40/1 40/1,79/2");
+        cause(Plot.of(0, 0, 0, 1, 1, 2), 0, 1, PowerPlot.BOX);
+        border(Plot.of(0, 0, 0, 1, 1, 1), 0, 1, "0/1,1/2 1/2,0/1");
+        cause(Plot.of(40, 40, 0, 39, 39, 2), 0, 1, PowerPlot.BOX);
+        border(Plot.of(40, 40, 0, 39, 39, 1), 0, 1, "79/2,40/1 40/1,79/2");
         // The sides of the box belong to it.
-        border(Plots.of(0, 0, 0, 1, 0, 1), 0, 1, "0/1,0/1 0/1,40/1");
-        border(Plots.of(39, 20, 0, 40, 20, -1), 0, 1, "40/1,0/1 40/1,40/1");
-        border(Plots.of(20, 0, 0, 20, 1, 1), 0, 1, "0/1,0/1 40/1,0/1");
-        border(Plots.of(20, 39, 0, 20, 40, -1), 0, 1, "0/1,40/1 40/1,40/1");
-        cause(Plots.of(0, 0, 0, 1, 0, 2), 0, 1, PowerPlot.BOX);
-        cause(Plots.of(39, 20, 0, 40, 20, -2), 0, 1, PowerPlot.BOX);
-        cause(Plots.of(20, 39, 0, 20, 40, -2), 0, 1, PowerPlot.BOX);
+        border(Plot.of(0, 0, 0, 1, 0, 1), 0, 1, "0/1,0/1 0/1,40/1");
+        border(Plot.of(39, 20, 0, 40, 20, -1), 0, 1, "40/1,0/1 40/1,40/1");
+        border(Plot.of(20, 0, 0, 20, 1, 1), 0, 1, "0/1,0/1 40/1,0/1");
+        border(Plot.of(20, 39, 0, 20, 40, -1), 0, 1, "0/1,40/1 40/1,40/1");
+        cause(Plot.of(0, 0, 0, 1, 0, 2), 0, 1, PowerPlot.BOX);
+        cause(Plot.of(39, 20, 0, 40, 20, -2), 0, 1, PowerPlot.BOX);
+        cause(Plot.of(20, 39, 0, 20, 40, -2), 0, 1, PowerPlot.BOX);
     }
 
     private static void cutByOthers() {
-        PowerPlot plot = Plots.of(0, 20, 0, 40, 20, 0, 20, 0, 0);
+        Plot plot = Plot.of(0, 20, 0, 40, 20, 0, 20, 0, 0);
         border(plot, 0, 1, "20/1,20/1 20/1,40/1");
         border(plot, 0, 2, "0/1,0/1 20/1,20/1");
         border(plot, 1, 2, "20/1,20/1 40/1,0/1");
@@ -91,7 +91,7 @@ public final class BorderTest {
 
     private static void causesInTheirOrder() {
         // Both others leave one point together, and neither alone.
-        PowerPlot plot = Plots.of(0, 20, 0, 40, 20, 0, 20, 0, 0, 20, 40, 0);
+        Plot plot = Plot.of(0, 20, 0, 40, 20, 0, 20, 0, 0, 20, 40, 0);
         cause(plot, 0, 1, 3);
         cause(plot, 2, 3, 1);
         plot.weight(2, -1);
@@ -103,10 +103,10 @@ public final class BorderTest {
         plot.weight(2, 0);
         cause(plot, 0, 1, 3);
         // The box comes first, whatever another one cuts.
-        PowerPlot far = Plots.of(0, 0, 0, 1, 0, -999, 20, 20, 999);
+        Plot far = Plot.of(0, 0, 0, 1, 0, -999, 20, 20, 999);
         cause(far, 0, 1, PowerPlot.BOX);
         // Lower numbers come first, whether they are below both sites, between them or above both.
-        PowerPlot below = Plots.of(20, 20, 100, 20, 20, 100, 0, 20, 0, 40, 20, 0, 20, 20, 900);
+        Plot below = Plot.of(20, 20, 100, 20, 20, 100, 0, 20, 0, 40, 20, 0, 20, 20, 900);
         cause(below, 2, 3, 0);
         below.weight(0, -999);
         cause(below, 2, 3, 1);
@@ -115,7 +115,7 @@ public final class BorderTest {
     }
 
     private static void alikeCutsNothing() {
-        PowerPlot plot = Plots.of(0, 20, 0, 40, 20, 0, 20, 20, -400);
+        Plot plot = Plot.of(0, 20, 0, 40, 20, 0, 20, 20, -400);
         border(plot, 0, 1, "20/1,0/1 20/1,40/1");
         border(plot, 0, 2, "20/1,0/1 20/1,40/1");
         border(plot, 1, 2, "20/1,0/1 20/1,40/1");
@@ -137,26 +137,26 @@ public final class BorderTest {
     }
 
     private static void hiddenCuts() {
-        PowerPlot plot = Plots.of(0, 20, 0, 40, 20, 0, 20, 20, 0, 20, 20, 500);
+        Plot plot = Plot.of(0, 20, 0, 40, 20, 0, 20, 20, 0, 20, 20, 500);
         check.due("the third is hidden", plot.isHidden(2), true);
         cause(plot, 0, 1, 2);
     }
 
     private static void samePlaces() {
-        PowerPlot plot = Plots.of(5, 6, 0, 5, 6, 0, 5, 6, 9, 30, 30, 0, 5, 7, 0);
+        Plot plot = Plot.of(5, 6, 0, 5, 6, 0, 5, 6, 9, 30, 30, 0, 5, 7, 0);
         cause(plot, 0, 1, PowerPlot.SAME);
         cause(plot, 0, 2, PowerPlot.SAME);
         cause(plot, 0, 0, PowerPlot.SAME);
         cause(plot, 3, 3, PowerPlot.SAME);
         cause(plot, 0, 3, 2);
         // Alike in one coordinate alone is another place.
-        PowerPlot near = Plots.of(5, 6, 0, 5, 7, 0, 6, 6, 0);
+        Plot near = Plot.of(5, 6, 0, 5, 7, 0, 6, 6, 0);
         border(near, 0, 1, "0/1,13/2 11/2,13/2");
         border(near, 0, 2, "11/2,0/1 11/2,13/2");
     }
 
     private static void countsBeside() {
-        PowerPlot plot = Plots.of(20, 20, 0);
+        Plot plot = Plot.of(20, 20, 0);
         check.due("beside, alone", plot.beside(0), 0);
         int[] more = {0, 0, 40, 0, 0, 40, 40, 40};
         for (int i = 0; i < more.length; i += 2) {
@@ -177,7 +177,7 @@ public final class BorderTest {
     }
 
     private static void refuses() {
-        PowerPlot plot = Plots.of(10, 20, 0, 30, 20, 0);
+        Plot plot = Plot.of(10, 20, 0, 30, 20, 0);
         for (int none : new int[] {-1, -2, -3, 2, 11, 12, LEAST, MOST}) {
             check.fails("hasBorder of " + none, plot, NO_SITE, () -> plot.hasBorder(none, 0));
             check.fails("hasBorder with " + none, plot, NO_SITE, () -> plot.hasBorder(0, none));

@@ -19,7 +19,7 @@ public final class CellsTest {
         check.end();
     }
 
-    private static void shares(PowerPlot plot, int... due) {
+    private static void shares(Plot plot, int... due) {
         for (int site = 0; site < due.length; site++) {
             int asked = site;
             check.asks("share", plot, () -> check.due("share " + asked, plot.share(asked), due[asked]));
@@ -27,13 +27,13 @@ public final class CellsTest {
         }
     }
 
-    private static void row(PowerPlot plot, int site, int y, int first, int last) {
+    private static void row(Plot plot, int site, int y, int first, int last) {
         check.due("the first in row " + y + " of " + site, plot.inRow(site, y, false), first);
         check.due("the last in row " + y + " of " + site, plot.inRow(site, y, true), last);
     }
 
     private static void oneSiteOwnsAll() {
-        PowerPlot plot = Plots.of(7, 9, -999);
+        Plot plot = Plot.of(7, 9, -999);
         shares(plot, 1681);
         row(plot, 0, 0, 0, 40);
         row(plot, 0, 40, 0, 40);
@@ -41,7 +41,7 @@ public final class CellsTest {
     }
 
     private static void tiesGoToTheLowest() {
-        PowerPlot plot = Plots.of(0, 20, 0, 20, 20, 0, 40, 20, 0);
+        Plot plot = Plot.of(0, 20, 0, 20, 20, 0, 40, 20, 0);
         shares(plot, 11 * 41, 20 * 41, 10 * 41);
         row(plot, 0, 3, 0, 10);
         row(plot, 1, 3, 11, 30);
@@ -49,18 +49,18 @@ public final class CellsTest {
         check.due("owner on a tie", plot.owner(10, 0), 0);
         check.due("owner on a tie", plot.owner(30, 40), 1);
         check.due("owner behind a tie", plot.owner(31, 40), 2);
-        PowerPlot turned = Plots.of(40, 20, 0, 20, 20, 0, 0, 20, 0);
+        Plot turned = Plot.of(40, 20, 0, 20, 20, 0, 0, 20, 0);
         shares(turned, 11 * 41, 20 * 41, 10 * 41);
         row(turned, 0, 3, 30, 40);
         row(turned, 1, 3, 10, 29);
         row(turned, 2, 3, 0, 9);
-        PowerPlot upright = Plots.of(20, 10, 0, 20, 30, 0);
+        Plot upright = Plot.of(20, 10, 0, 20, 30, 0);
         shares(upright, 21 * 41, 20 * 41);
         row(upright, 0, 20, 0, 40);
         row(upright, 1, 20, PowerPlot.NONE, PowerPlot.NONE);
         row(upright, 1, 21, 0, 40);
         row(upright, 0, 21, PowerPlot.NONE, PowerPlot.NONE);
-        PowerPlot alike = Plots.of(5, 5, 3, 5, 5, 3, 5, 5, 4);
+        Plot alike = Plot.of(5, 5, 3, 5, 5, 3, 5, 5, 4);
         shares(alike, 0, 0, 1681);
         alike.weight(2, 3);
         shares(alike, 1681, 0, 0);
@@ -68,7 +68,7 @@ public final class CellsTest {
     }
 
     private static void weightsShiftCells() {
-        PowerPlot plot = Plots.of(10, 20, 0, 30, 20, 0);
+        Plot plot = Plot.of(10, 20, 0, 30, 20, 0);
         shares(plot, 861, 820);
         plot.weight(1, 40);
         shares(plot, 820, 861);
@@ -84,7 +84,7 @@ public final class CellsTest {
 
     private static void rowsWithGaps() {
         // The first one's cell is a diamond about the middle: within 10 of it, along both coordinates together.
-        PowerPlot plot = Plots.of(20, 20, 0, 10, 10, 0, 30, 10, 0, 10, 30, 0, 30, 30, 0);
+        Plot plot = Plot.of(20, 20, 0, 10, 10, 0, 30, 10, 0, 10, 30, 0, 30, 30, 0);
         row(plot, 0, 9, PowerPlot.NONE, PowerPlot.NONE);
         row(plot, 0, 10, 20, 20);
         row(plot, 0, 12, 18, 22);
@@ -96,14 +96,14 @@ public final class CellsTest {
     }
 
     private static void refusesCells() {
-        PowerPlot plot = Plots.of(20, 20, 0, 10, 10, 0);
+        Plot plot = Plot.of(20, 20, 0, 10, 10, 0);
         for (int wrong : new int[] {-1, 41, LEAST, MOST}) {
             check.fails("owner at x " + wrong, plot, WRONG, () -> plot.owner(wrong, 0));
             check.fails("owner at y " + wrong, plot, WRONG, () -> plot.owner(0, wrong));
             check.fails("inRow " + wrong, plot, WRONG, () -> plot.inRow(0, wrong, true));
             check.fails("inRow with both wrong", plot, NO_SITE, () -> plot.inRow(2, wrong, false));
         }
-        PowerPlot empty = new PowerPlot();
+        Plot empty = new Plot();
         check.fails("owner without sites", empty, WRONG, () -> empty.owner(41, 0));
         for (int none : new int[] {-1, 2, 11, 12, LEAST, MOST}) {
             check.fails("share of " + none, plot, NO_SITE, () -> plot.share(none));
@@ -113,7 +113,7 @@ public final class CellsTest {
     }
 
     private static void hiddenAtOnePlace() {
-        PowerPlot plot = Plots.of(7, 9, -999);
+        Plot plot = Plot.of(7, 9, -999);
         check.due("alone", plot.isHidden(0), false);
         plot.site(7, 9, -999);
         check.due("one of two alike", plot.isHidden(0), true);
@@ -123,14 +123,14 @@ public final class CellsTest {
         check.due("the heavier", plot.isHidden(1), false);
         plot.move(1, 7, 10);
         check.due("at unlike places", plot.isHidden(0), false);
-        PowerPlot three = Plots.of(7, 9, 5, 7, 9, 5, 7, 9, 6, 7, 9, 5);
+        Plot three = Plot.of(7, 9, 5, 7, 9, 5, 7, 9, 6, 7, 9, 5);
         check.due("the heaviest of four", three.isHidden(2), false);
         check.due("the last of them", three.isHidden(3), true);
     }
 
     private static void hiddenOnALine() {
         // Heights 0 and 1600: at x = 10 the line between them is at 400.
-        PowerPlot plot = Plots.of(0, 0, 0, 40, 0, 0, 10, 0, -299);
+        Plot plot = Plot.of(0, 0, 0, 40, 0, 0, 10, 0, -299);
         check.due("below the line", plot.isHidden(2), false);
         plot.weight(2, -300);
         check.due("on the line", plot.isHidden(2), true);
@@ -149,12 +149,12 @@ public final class CellsTest {
         check.due("below the line", plot.isHidden(2), false);
         plot.weight(2, -300);
         check.due("on the line", plot.isHidden(2), true);
-        PowerPlot slanted = Plots.of(1, 2, 0, 13, 10, 0, 4, 4, -38);
+        Plot slanted = Plot.of(1, 2, 0, 13, 10, 0, 4, 4, -38);
         // Heights 5 and 269, a quarter of the way: 71; its own is 32 less its weight.
         check.due("below a slanted line", slanted.isHidden(2), false);
         slanted.weight(2, -39);
         check.due("on a slanted line", slanted.isHidden(2), true);
-        PowerPlot upright = Plots.of(7, 0, 0, 7, 10, -299, 7, 40, 0);
+        Plot upright = Plot.of(7, 0, 0, 7, 10, -299, 7, 40, 0);
         check.due("below an upright line", upright.isHidden(1), false);
         upright.weight(1, -300);
         check.due("on an upright line", upright.isHidden(1), true);
@@ -166,7 +166,7 @@ public final class CellsTest {
         // The plane through the corners is at 40 x + 40 y.
         int[][] corners = {{0, 0, 0, 40, 0, 0, 0, 40, 0}, {0, 0, 0, 0, 40, 0, 40, 0, 0}, {40, 0, 0, 0, 0, 0, 0, 40, 0}};
         for (int[] corner : corners) {
-            PowerPlot plot = Plots.of(corner);
+            Plot plot = Plot.of(corner);
             plot.site(10, 10, -599);
             check.due("below the plane", plot.isHidden(3), false);
             plot.weight(3, -600);
@@ -183,7 +183,7 @@ public final class CellsTest {
             check.due("outside the triangle", plot.isHidden(3), false);
         }
         // A small triangle: its plane is at 10 thirds over 1, 1, where the height is 2 less the weight.
-        PowerPlot small = Plots.of(0, 0, 0, 2, 1, 0, 1, 2, 0, 1, 1, -1);
+        Plot small = Plot.of(0, 0, 0, 2, 1, 0, 1, 2, 0, 1, 1, -1);
         check.due("a third below the plane", small.isHidden(3), false);
         small.weight(3, -2);
         check.due("two thirds above the plane", small.isHidden(3), true);
@@ -193,26 +193,26 @@ public final class CellsTest {
             small.move(3, place[0], place[1]);
             check.due("near the triangle", small.isHidden(3), false);
         }
-        PowerPlot line = Plots.of(0, 0, 0, 20, 20, 0, 40, 40, 0, 20, 19, -999);
+        Plot line = Plot.of(0, 0, 0, 20, 20, 0, 40, 40, 0, 20, 19, -999);
         check.due("three others on a line", line.isHidden(3), false);
-        PowerPlot far = Plots.of(20, 20, 0, 40, 40, 0, 0, 0, 0, 0, 1, 0, 40, 0, 0, 0, 40, 0);
+        Plot far = Plot.of(20, 20, 0, 40, 40, 0, 0, 0, 0, 0, 1, 0, 40, 0, 0, 0, 40, 0);
         check.due("behind others that hide nothing", far.isHidden(0), false);
         far.weight(0, -800);
         check.due("between far others", far.isHidden(0), true);
     }
 
     private static void hiddenIsNotShareless() {
-        PowerPlot plot = Plots.of(39, 39, 999, 40, 40, -999);
+        Plot plot = Plot.of(39, 39, 999, 40, 40, -999);
         check.due("the share of one that is least outside the box alone", plot.share(1), 0);
         check.asks("isHidden", plot, () -> check.due("hidden", plot.isHidden(1), false));
     }
 
     private static void refusesHidden() {
-        PowerPlot plot = Plots.of(20, 20, 0, 10, 10, 0);
+        Plot plot = Plot.of(20, 20, 0, 10, 10, 0);
         for (int none : new int[] {-1, 2, 11, 12, LEAST, MOST}) {
             check.fails("isHidden of " + none, plot, NO_SITE, () -> plot.isHidden(none));
         }
-        PowerPlot empty = new PowerPlot();
+        Plot empty = new Plot();
         check.fails("isHidden without sites", empty, NO_SITE, () -> empty.isHidden(0));
     }
 }

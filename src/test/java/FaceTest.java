@@ -104,10 +104,9 @@ public final class FaceTest {
         fieldsOf(PowerPlot.class);
         for (Class<?> inside : PowerPlot.class.getDeclaredClasses()) {
             check.due(inside + " is static", Modifier.isStatic(inside.getModifiers()), true);
-            check.due(inside + " is not public", Modifier.isPublic(inside.getModifiers()) || Modifier.isProtected(inside.getModifiers()), false);
-            for (Method method : inside.getDeclaredMethods()) {
-                check.due(method + " is named as one of the face", face.contains(method.getName()), false);
-            }
+            int open = Modifier.PUBLIC | Modifier.PROTECTED;
+            check.due(inside + " is not public", inside.getModifiers() & open, 0);
+            noPrivateMethodNamedAs(face, inside);
             fieldsOf(inside);
         }
     }
@@ -130,8 +129,14 @@ public final class FaceTest {
         check.due(type + " has at most twenty fields", own <= 20, true);
     }
 
+    /** Without comments, what stands within texts, and the arrows of a switch. */
+    private static String code(String source) {
+        return source.replaceAll("(?s)/\\*.*?\\*/", "").replaceAll("//[^\n]*", "").replaceAll("\"[^\"\n]*\"", "\"\"")
+            .replaceAll("(case [^;{}]*?|default )->", "$1");
+    }
+
     private static void source() throws IOException {
-        String text = Files.readString(Path.of("src/main/java/PowerPlot.java"));
+        String text = code(Files.readString(Path.of("src/main/java/PowerPlot.java")));
         for (String never : NEVER) {
             check.due("the source holds <" + never + ">", text.contains(never), false);
         }

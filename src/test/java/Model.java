@@ -17,6 +17,49 @@ final class Model {
         return count++;
     }
 
+    int move(int site, int newX, int newY) {
+        x[site] = newX;
+        y[site] = newY;
+        return 0;
+    }
+
+    int tellWeight(int site, int newWeight) {
+        int before = weight[site];
+        weight[site] = newWeight;
+        return before;
+    }
+
+    int tellCapacity(int site, int newCapacity) {
+        int before = capacity[site];
+        capacity[site] = newCapacity;
+        return before;
+    }
+
+    Model copy() {
+        Model copy = new Model();
+        copy.count = count;
+        System.arraycopy(x, 0, copy.x, 0, count);
+        System.arraycopy(y, 0, copy.y, 0, count);
+        System.arraycopy(weight, 0, copy.weight, 0, count);
+        System.arraycopy(capacity, 0, copy.capacity, 0, count);
+        return copy;
+    }
+
+    /** As Snapshot.of tells it. */
+    String snapshot() {
+        StringBuilder text = new StringBuilder().append(count);
+        for (int site = 0; site < count; site++) {
+            text.append(" / ").append(x[site]).append(' ').append(y[site]);
+            text.append(' ').append(weight[site]).append(' ').append(capacity[site]);
+        }
+        return text.toString();
+    }
+
+    int ofSite(int site, int what) {
+        int[] all = {x[site], y[site], weight[site], capacity[site], height(site), shares()[site] - capacity[site]};
+        return all[what];
+    }
+
     int power(int site, int px, int py) {
         return (px - x[site]) * (px - x[site]) + (py - y[site]) * (py - y[site]) - weight[site];
     }
@@ -150,11 +193,31 @@ final class Model {
         if (cause != NONE) {
             return "none by " + cause;
         }
+        Fraction first = end(0);
+        Fraction second = end(1);
+        return xAt(first).text() + "," + yAt(first).text() + " " + xAt(second).text() + "," + yAt(second).text();
+    }
+
+    /** There must be a border. */
+    long ofEnd(int site, int other, int end, int what) {
+        cause(site, other);
+        Fraction of = what < 2 ? xAt(end(end)) : yAt(end(end));
+        return (what % 2 == 0 ? of.top : of.bottom).longValueExact();
+    }
+
+    int beside(int site) {
+        int borders = 0;
+        for (int other = 0; other < count; other++) {
+            borders += cause(site, other) == NONE ? 1 : 0;
+        }
+        return borders;
+    }
+
+    /** Where an end is on the line whose cause was asked last. */
+    private Fraction end(int end) {
         boolean isForth = xAt(from).minus(xAt(to)).sign() < 0
             || xAt(from).minus(xAt(to)).sign() == 0 && yAt(from).minus(yAt(to)).sign() < 0;
-        Fraction first = isForth ? from : to;
-        Fraction second = isForth ? to : from;
-        return xAt(first).text() + "," + yAt(first).text() + " " + xAt(second).text() + "," + yAt(second).text();
+        return isForth == (end == 0) ? from : to;
     }
 
     int cause(int site, int other) {
@@ -180,7 +243,8 @@ final class Model {
         }
         for (int third = 0; third < count; third++) {
             if (third != site && third != other) {
-                keepNotBelow0(powerOn(third, zero).minus(powerOn(site, zero)), powerOn(third, one).minus(powerOn(site, one)));
+                keepNotBelow0(powerOn(third, zero).minus(powerOn(site, zero)),
+                    powerOn(third, one).minus(powerOn(site, one)));
                 if (isOver()) {
                     return third;
                 }
@@ -268,6 +332,11 @@ final class Model {
         int disorder = disorder();
         System.arraycopy(weights, 0, weight, 0, weights.length);
         return disorder;
+    }
+
+    char sign(int site, int place) {
+        String text = text(site);
+        return place < text.length() ? text.charAt(place) : ' ';
     }
 
     String text(int site) {

@@ -6,7 +6,7 @@ public final class ModelTest {
     private static final int[] WEIGHTS = {-999, -998, -100, -50, -1, 0, 0, 0, 1, 7, 50, 200, 998, 999};
 
     private final Random random;
-    private final PowerPlot plot = new PowerPlot();
+    private final Plot plot = new Plot();
     private final Model model = new Model();
     private final int least;
     private final int step;

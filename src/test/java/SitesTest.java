@@ -22,8 +22,8 @@ public final class SitesTest {
         check.end();
     }
 
-    private static PowerPlot twoSites() {
-        PowerPlot plot = new PowerPlot();
+    private static Plot twoSites() {
+        Plot plot = new Plot();
         plot.site(3, 40, -7);
         plot.site(12, 0, 999);
         plot.capacity(1, 25);
@@ -31,7 +31,7 @@ public final class SitesTest {
     }
 
     private static void newObject() {
-        PowerPlot plot = new PowerPlot();
+        Plot plot = new Plot();
         check.due("sites of a new object", plot.sites(), 0);
         check.due("disorder of a new object", plot.disorder(), 0);
         for (int x = 0; x <= 40; x++) {
@@ -43,15 +43,15 @@ public final class SitesTest {
     }
 
     private static void objectsAreApart() {
-        PowerPlot plot = twoSites();
-        PowerPlot other = new PowerPlot();
+        Plot plot = twoSites();
+        Plot other = new Plot();
         check.due("sites of another object", other.sites(), 0);
         other.site(1, 1, 1);
         check.due("the first object", Snapshot.of(plot), "2 / 3 40 -7 0 / 12 0 999 25");
     }
 
     private static void addsSites() {
-        PowerPlot plot = new PowerPlot();
+        Plot plot = new Plot();
         check.due("site", plot.site(0, 0, -999), 0);
         check.due("site", plot.site(40, 40, 999), 1);
         check.due("site", plot.site(0, 40, 0), 2);
@@ -69,7 +69,7 @@ public final class SitesTest {
     }
 
     private static void refusesSites() {
-        PowerPlot plot = twoSites();
+        Plot plot = twoSites();
         for (int wrong : NO_COORDINATES) {
             check.fails("site with x " + wrong, plot, WRONG, () -> plot.site(wrong, 0, 0));
             check.fails("site with y " + wrong, plot, WRONG, () -> plot.site(0, wrong, 0));
@@ -80,7 +80,7 @@ public final class SitesTest {
     }
 
     private static void movesSites() {
-        PowerPlot plot = twoSites();
+        Plot plot = twoSites();
         plot.move(0, 40, 0);
         plot.move(1, 0, 40);
         check.due("behind moves", Snapshot.of(plot), "2 / 40 0 -7 0 / 0 40 999 25");
@@ -98,7 +98,7 @@ public final class SitesTest {
     }
 
     private static void tellsWeights() {
-        PowerPlot plot = twoSites();
+        Plot plot = twoSites();
         check.due("weight", plot.weight(0, 999), -7);
         check.due("weight", plot.weight(0, -999), 999);
         check.due("weight, the same", plot.weight(0, -999), -999);
@@ -114,7 +114,7 @@ public final class SitesTest {
     }
 
     private static void tellsCapacities() {
-        PowerPlot plot = twoSites();
+        Plot plot = twoSites();
         check.due("capacity", plot.capacity(0, 1681), 0);
         check.due("capacity", plot.capacity(0, 0), 1681);
         check.due("capacity", plot.capacity(1, 26), 25);
@@ -129,7 +129,7 @@ public final class SitesTest {
     }
 
     private static void tellsOfSites() {
-        PowerPlot plot = twoSites();
+        Plot plot = twoSites();
         int[] due = {3, 40, -7, 0, 9 + 1600 + 7, plot.shareAnew(0)};
         int[] dueOfOther = {12, 0, 999, 25, 144 - 999, plot.shareAnew(1) - 25};
         for (int what = 0; what < 6; what++) {
@@ -147,7 +147,7 @@ public final class SitesTest {
     }
 
     private static void tellsPowers() {
-        PowerPlot plot = twoSites();
+        Plot plot = twoSites();
         check.due("power at its place", plot.power(0, 3, 40), 7);
         check.due("power below 0", plot.power(1, 12, 0), -999);
         check.due("power at an end of the box", plot.power(0, 40, 0), 37 * 37 + 1600 + 7);
@@ -163,7 +163,7 @@ public final class SitesTest {
     }
 
     private static void tellsSigns() {
-        PowerPlot plot = twoSites();
+        Plot plot = twoSites();
         plot.site(0, 7, 0);
         plot.site(40, 40, -999);
         plot.site(10, 9, -1);

@@ -1,6 +1,10 @@
-/** What an object holds, as far as calls can change it: all else is worked out from this. */
+/** What an object tells of itself, as one text. */
 final class Snapshot {
-    static String of(PowerPlot plot) {
+    /** No snapshot takes more calls than this. */
+    static final int MOST_CALLS = 200;
+
+    /** The sites as x, y, weight and capacity: what calls can change, as all else is worked out from this. */
+    static String of(Plot plot) {
         StringBuilder text = new StringBuilder();
         text.append(plot.sites());
         for (int site = 0; site < plot.sites(); site++) {
@@ -11,17 +15,35 @@ final class Snapshot {
         return text.toString();
     }
 
+    /** The same, and what is worked out from it: an answer may have been kept and be out of date. */
+    static String all(Plot plot) {
+        StringBuilder text = new StringBuilder(of(plot));
+        int count = plot.sites();
+        text.append(" = ").append(plot.disorder()).append(' ').append(plot.owner(20, 20));
+        for (int site = 0; site < count; site++) {
+            text.append(" / ").append(plot.share(site)).append(plot.isHidden(site) ? "-" : "+").append(plot.beside(site));
+            for (int other = site + 1; other < count; other++) {
+                text.append(' ').append(plot.why(site, other));
+            }
+        }
+        return text.toString();
+    }
+
     /** The text of a site as its signs tell it, up to the first blank. */
-    static String text(PowerPlot plot, int site) {
+    static String text(Plot plot, int site) {
         StringBuilder text = new StringBuilder();
-        for (int place = 0; place < 20 && plot.sign(site, place) != ' '; place++) {
-            text.append(plot.sign(site, place));
+        for (int place = 0; place < 20; place++) {
+            char sign = plot.sign(site, place);
+            if (sign == ' ') {
+                break;
+            }
+            text.append(sign);
         }
         return text.toString();
     }
 
     /** The border as "x top/x bottom,y top/y bottom x top/..", both ends, or its cause. */
-    static String border(PowerPlot plot, int site, int other) {
+    static String border(Plot plot, int site, int other) {
         if (!plot.hasBorder(site, other)) {
             return "none by " + plot.why(site, other);
         }
