@@ -330,23 +330,64 @@ final class CellsEdges {
         hidden(small, 0, true);
     }
 
+    /** As many sites as there may be, but for those that a test moves too high to hide any of these. */
+    private static Plot twelveThatHideNone(int x, int y) {
+        Plot plot = new Plot();
+        for (int site = 0; site < 12; site++) {
+            plot.site(x, y, -999);
+        }
+        return plot;
+    }
+
+    private static void place(Plot plot, int site, int x, int y, int weight) {
+        plot.move(site, x, y);
+        plot.weight(site, weight);
+    }
+
+    /** The hiders are told first, the one that they hide last. */
     private void hiddenByFirstAndLastNumbers() {
-        check.promise(14, "each other site counts, from the first to the last of as many as there may be");
-        int[] hiders = {0, 0, 0, 40, 0, 0, 0, 40, 0};
-        int[][] orders = {{0, 1, 2, 11}, {9, 10, 11, 0}, {0, 5, 11, 3}, {1, 6, 11, 0}, {0, 1, 11, 10}};
-        for (int[] order : orders) {
-            Plot plot = new Plot();
-            for (int site = 0; site < 12; site++) {
-                plot.site(40, 40, 0);
-            }
-            for (int i = 0; i < 3; i++) {
-                plot.move(order[i], hiders[3 * i], hiders[3 * i + 1]);
-            }
-            plot.move(order[3], 10, 10);
-            plot.weight(order[3], -599);
-            hidden(plot, order[3], false);
-            plot.weight(order[3], -600);
-            hidden(plot, order[3], true);
+        check.promise(14, "its height is at least what one other at its place has, the first or the last of twelve");
+        int[][] twos = {{0, 11}, {11, 0}, {11, 10}, {10, 11}, {5, 6}};
+        for (int[] two : twos) {
+            Plot plot = twelveThatHideNone(40, 40);
+            place(plot, two[0], 10, 10, 5);
+            place(plot, two[1], 10, 10, 6);
+            hidden(plot, two[1], false);
+            plot.weight(two[1], 5);
+            hidden(plot, two[1], true);
+        }
+        for (int[] two : twos) {
+            Plot plot = alike(12);
+            plot.weight(two[0], 9);
+            plot.weight(two[1], 8);
+            hidden(plot, two[0], false);
+            hidden(plot, two[1], true);
+            plot.weight(two[0], 7);
+            hidden(plot, two[1], false);
+        }
+        check.promise(14, "straight between the heights of two others, the first or the last of twelve");
+        int[][] threes = {{0, 1, 11}, {0, 11, 5}, {11, 0, 10}, {10, 11, 0}, {11, 9, 10}};
+        for (int[] three : threes) {
+            // All on one line, so that no three of them are a triangle.
+            Plot plot = twelveThatHideNone(38, 0);
+            place(plot, three[0], 0, 0, 0);
+            place(plot, three[1], 40, 0, 0);
+            place(plot, three[2], 10, 0, -299);
+            hidden(plot, three[2], false);
+            plot.weight(three[2], -300);
+            hidden(plot, three[2], true);
+        }
+        check.promise(14, "in the plane through the heights of three others, the first or the last of twelve");
+        int[][] fours = {{0, 1, 2, 11}, {9, 10, 11, 0}, {0, 5, 11, 3}, {1, 6, 11, 0}, {11, 1, 0, 10}};
+        for (int[] four : fours) {
+            Plot plot = twelveThatHideNone(40, 40);
+            place(plot, four[0], 0, 0, 0);
+            place(plot, four[1], 40, 0, 0);
+            place(plot, four[2], 0, 40, 0);
+            place(plot, four[3], 10, 10, -599);
+            hidden(plot, four[3], false);
+            plot.weight(four[3], -600);
+            hidden(plot, four[3], true);
         }
     }
 
